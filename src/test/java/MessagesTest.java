@@ -18,6 +18,7 @@ public final class MessagesTest {
         prepareBelowTheAccepted();
         refusedRaisesTheCount();
         refusedOfAnEndedRequest();
+        refusedNeverLowersTheCount();
         greatestBallotIsChanged();
         answersAtTheRim();
         run();
@@ -267,6 +268,22 @@ public final class MessagesTest {
         x.run(1000);
         CHECK.due("5: and which is done", x.request(6, 0), 1);
         CHECK.due("5: the one before stays lost", x.request(5, 0), 2);
+    }
+
+    private static void refusedNeverLowersTheCount() {
+        SharedRegisters x = new SharedRegisters();
+        x.ask(0, 0, 0, 0L);
+        x.twice(0);
+        x.take(3);
+        x.take(0);
+        x.give(0);
+        x.ask(0, 0, 0, 0L);
+        x.give(0);
+        x.ask(0, 0, 0, 0L);
+        row(x, 3, 4, 0, 0, 0, 4, -1);
+        CHECK.due("5: an old REFUSED", x.take(3), 4);
+        CHECK.due("5: the count stays", x.asker(0, 0), 3);
+        CHECK.due("5: and the request goes on", x.asker(0, 1), 2);
     }
 
     /** Keeper 0 has ballot 4 and keeper 1 ballot 9; whichever answers last, the state of 9 is changed. */
