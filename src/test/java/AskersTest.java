@@ -19,7 +19,7 @@ public final class AskersTest {
     }
 
     private static void newObject() {
-        SharedRegisters x = new SharedRegisters();
+        Story x = new Story();
         CHECK.due("1: messages()", x.messages(), 0);
         CHECK.due("1: requests", View.requests(x), 0);
         for (int keeper = 0; keeper < 9; keeper++) {
@@ -39,13 +39,13 @@ public final class AskersTest {
             x.ask(asker, 0, 0, 0L);
             CHECK.due("1: the first plan's set", x.messages(), 3 * (asker + 1));
         }
-        SharedRegisters other = new SharedRegisters();
+        Story other = new Story();
         CHECK.due("1: another object has its own state", other.messages(), 0);
     }
 
     private static void askBegins() {
         for (int asker = 0; asker < 4; asker++) {
-            SharedRegisters x = new SharedRegisters();
+            Story x = new Story();
             CHECK.due("2: ask", x.ask(asker, 3, 6, Long.MIN_VALUE), 0);
             CHECK.due("2: count", x.asker(asker, 0), 1);
             CHECK.due("2: the asker has it", x.asker(asker, 1), 0);
@@ -65,7 +65,7 @@ public final class AskersTest {
     }
 
     private static void askUsesTheNextCount() {
-        SharedRegisters x = new SharedRegisters();
+        Story x = new Story();
         x.ask(3, 0, 0, 0L);
         x.give(3);
         CHECK.due("2: second", x.ask(3, 0, 0, 0L), 1);
@@ -76,25 +76,21 @@ public final class AskersTest {
     }
 
     private static void askAnswersNone() {
-        SharedRegisters x = new SharedRegisters();
+        Story x = new Story();
         x.ask(1, 0, 2, 5L);
-        String before = View.of(x);
-        CHECK.due("2: the asker has one", x.ask(1, 1, 2, 5L), -1);
-        CHECK.same("2: NONE changes nothing", View.of(x), before);
+        CHECK.none("2: the asker has one", x, s -> s.ask(1, 1, 2, 5L));
 
-        SharedRegisters many = new SharedRegisters();
+        Story many = new Story();
         for (int r = 0; r < 200; r++) {
             CHECK.due("2: request " + r, many.ask(r % 4, 0, 0, 0L), r);
             many.give(r % 4);
         }
-        before = View.of(many);
-        CHECK.due("2: there were 200", many.ask(0, 0, 0, 0L), -1);
-        CHECK.same("2: NONE after 200 changes nothing", View.of(many), before);
+        CHECK.none("2: there were 200", many, s -> s.ask(0, 0, 0, 0L));
         CHECK.due("2: the last one stands", many.request(199, 3), 4 * 50 + 3);
     }
 
     private static void askLosesWhatHasNoRoom() {
-        SharedRegisters x = new SharedRegisters();
+        Story x = new Story();
         x.ask(0, 0, 0, 0L);
         for (int n = 4; n <= 299; n++) {
             CHECK.due("2: twice", x.twice(0), n);
@@ -109,22 +105,22 @@ public final class AskersTest {
     }
 
     private static void askRefuses() {
-        SharedRegisters x = new SharedRegisters();
+        Story x = new Story();
         x.ask(0, 0, 2, 7L);
         for (int wrong : new int[] {-1, 4, MIN, MAX}) {
-            CHECK.outOfBounds("2: asker " + wrong, x, () -> x.ask(wrong, 0, 0, 0L));
-            CHECK.outOfBounds("2: key " + wrong, x, () -> x.ask(1, wrong, 0, 0L));
-            CHECK.outOfBounds("2: asker, and change", x, () -> x.ask(wrong, 0, 7, 0L));
-            CHECK.outOfBounds("2: key, and change", x, () -> x.ask(1, wrong, -1, 0L));
+            CHECK.outOfBounds("2: asker " + wrong, x, s -> s.ask(wrong, 0, 0, 0L));
+            CHECK.outOfBounds("2: key " + wrong, x, s -> s.ask(1, wrong, 0, 0L));
+            CHECK.outOfBounds("2: asker, and change", x, s -> s.ask(wrong, 0, 7, 0L));
+            CHECK.outOfBounds("2: key, and change", x, s -> s.ask(1, wrong, -1, 0L));
         }
         for (int wrong : new int[] {-1, 7, MIN, MAX}) {
-            CHECK.illegal("2: change " + wrong, x, () -> x.ask(1, 0, wrong, 0L));
-            CHECK.illegal("2: change " + wrong + " before NONE", x, () -> x.ask(0, 0, wrong, 0L));
+            CHECK.illegal("2: change " + wrong, x, s -> s.ask(1, 0, wrong, 0L));
+            CHECK.illegal("2: change " + wrong + " before NONE", x, s -> s.ask(0, 0, wrong, 0L));
         }
     }
 
     private static void give() {
-        SharedRegisters x = new SharedRegisters();
+        Story x = new Story();
         CHECK.due("3: none", x.give(2), -1);
         x.ask(0, 0, 2, 1L);
         x.ask(2, 0, 2, 1L);
@@ -133,14 +129,12 @@ public final class AskersTest {
         CHECK.due("3: the other goes on", x.request(0, 0), 0);
         CHECK.due("3: the asker has none", x.asker(2, 1), -1);
         CHECK.due("3: what was sent stays", x.messages(), 6);
-        String before = View.of(x);
-        CHECK.due("3: again", x.give(2), -1);
-        CHECK.same("3: NONE changes nothing", View.of(x), before);
+        CHECK.none("3: again", x, s -> s.give(2));
         x.run(1000);
         CHECK.due("3: answers do not bring it back", x.request(1, 0), 2);
         CHECK.due("3: a done one is none", x.give(0), -1);
 
-        SharedRegisters accepting = new SharedRegisters();
+        Story accepting = new Story();
         accepting.ask(1, 0, 2, 8L);
         accepting.run(6);
         CHECK.due("3: accepting", accepting.asker(1, 2), 1);
@@ -149,12 +143,12 @@ public final class AskersTest {
         CHECK.due("3: lost, though", accepting.request(0, 0), 2);
         CHECK.due("3: it came to be", accepting.kept(0, 0), 8);
         for (int wrong : new int[] {-1, 4, MIN, MAX}) {
-            CHECK.outOfBounds("3: asker " + wrong, x, () -> x.give(wrong));
+            CHECK.outOfBounds("3: asker " + wrong, x, s -> s.give(wrong));
         }
     }
 
     private static void planOfNewRequests() {
-        SharedRegisters x = new SharedRegisters();
+        Story x = new Story();
         x.plan(1, 0, 0b101000001, 3);
         x.plan(1, 1, 0b010000000, 1);
         x.ask(1, 2, 2, 77L);
@@ -176,7 +170,7 @@ public final class AskersTest {
         x.ask(0, 0, 0, 0L);
         CHECK.due("4: the others' plans stay", x.messages(), 3);
 
-        SharedRegisters all = new SharedRegisters();
+        Story all = new Story();
         all.plan(3, 0, 511, 9);
         all.plan(3, 1, 511, 9);
         all.ask(3, 0, 4, 4L);
@@ -185,7 +179,7 @@ public final class AskersTest {
     }
 
     private static void planInEffectStays() {
-        SharedRegisters x = new SharedRegisters();
+        Story x = new Story();
         x.ask(0, 0, 2, 5L);
         x.plan(0, 0, 1, 1);
         x.plan(0, 1, 8, 1);
@@ -204,21 +198,21 @@ public final class AskersTest {
     }
 
     private static void planRefuses() {
-        SharedRegisters x = new SharedRegisters();
+        Story x = new Story();
         for (int wrong : new int[] {-1, 4, MIN, MAX}) {
-            CHECK.outOfBounds("4: asker " + wrong, x, () -> x.plan(wrong, 0, 7, 2));
-            CHECK.outOfBounds("4: asker, and set", x, () -> x.plan(wrong, 0, 0, 2));
+            CHECK.outOfBounds("4: asker " + wrong, x, s -> s.plan(wrong, 0, 7, 2));
+            CHECK.outOfBounds("4: asker, and set", x, s -> s.plan(wrong, 0, 0, 2));
         }
         for (int wrong : new int[] {-1, 2, MIN, MAX}) {
-            CHECK.outOfBounds("4: which " + wrong, x, () -> x.plan(0, wrong, 7, 2));
-            CHECK.outOfBounds("4: which, and enough", x, () -> x.plan(0, wrong, 7, 4));
+            CHECK.outOfBounds("4: which " + wrong, x, s -> s.plan(0, wrong, 7, 2));
+            CHECK.outOfBounds("4: which, and enough", x, s -> s.plan(0, wrong, 7, 4));
         }
         for (int wrong : new int[] {0, -1, 512, 513, MIN, MAX}) {
-            CHECK.illegal("4: set " + wrong, x, () -> x.plan(0, 0, wrong, 1));
+            CHECK.illegal("4: set " + wrong, x, s -> s.plan(0, 0, wrong, 1));
         }
         for (int wrong : new int[] {0, -1, 3, MIN, MAX}) {
-            CHECK.illegal("4: enough " + wrong, x, () -> x.plan(0, 0, 0b100100000, wrong));
-            CHECK.illegal("4: enough " + wrong, x, () -> x.plan(0, 1, 0b100100000, wrong));
+            CHECK.illegal("4: enough " + wrong, x, s -> s.plan(0, 0, 0b100100000, wrong));
+            CHECK.illegal("4: enough " + wrong, x, s -> s.plan(0, 1, 0b100100000, wrong));
         }
         x.ask(0, 0, 2, 1L);
         CHECK.due("4: what was refused changed no set", x.run(1000), 12);

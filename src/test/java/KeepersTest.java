@@ -19,7 +19,7 @@ public final class KeepersTest {
     }
 
     private static void down() {
-        SharedRegisters x = new SharedRegisters();
+        Story x = new Story();
         for (int keeper = 0; keeper < 9; keeper++) {
             CHECK.due("9: was not", x.down(keeper, true), false);
             CHECK.due("9: was", x.down(keeper, true), true);
@@ -33,7 +33,7 @@ public final class KeepersTest {
     }
 
     private static void downTakesNothing() {
-        SharedRegisters x = new SharedRegisters();
+        Story x = new Story();
         x.ask(0, 0, 2, 6L);
         x.down(0, true);
         CHECK.due("9: PREPARE is taken", x.take(0), 0);
@@ -47,7 +47,7 @@ public final class KeepersTest {
         x.run(1000);
         CHECK.due("9: two others are enough", x.request(0, 0), 1);
 
-        SharedRegisters told = new SharedRegisters();
+        Story told = new Story();
         told.ask(0, 0, 2, 6L);
         told.run(3);
         told.down(0, true);
@@ -60,7 +60,7 @@ public final class KeepersTest {
     }
 
     private static void downKeeps() {
-        SharedRegisters x = new SharedRegisters();
+        Story x = new Story();
         x.ask(0, 0, 2, 6L);
         x.run(1000);
         x.ask(0, 0, 2, 6L);
@@ -77,7 +77,7 @@ public final class KeepersTest {
     }
 
     private static int downCopy(boolean fromDown, boolean toDown) {
-        SharedRegisters x = new SharedRegisters();
+        Story x = new Story();
         x.ask(0, 0, 2, 6L);
         x.run(1000);
         x.down(0, fromDown);
@@ -86,7 +86,7 @@ public final class KeepersTest {
     }
 
     private static void copy() {
-        SharedRegisters x = new SharedRegisters();
+        Story x = new Story();
         CHECK.due("10: nothing accepted", x.copy(1, 0), 0);
         x.ask(0, 2, 2, 6L);
         x.run(1000);
@@ -106,7 +106,7 @@ public final class KeepersTest {
     }
 
     private static void copyOfAllKeys() {
-        SharedRegisters x = new SharedRegisters();
+        Story x = new Story();
         for (int key = 0; key < 4; key++) {
             x.ask(0, key, 2, 10L + key);
             x.run(1000);
@@ -119,7 +119,7 @@ public final class KeepersTest {
     }
 
     private static void copyTakesTheGreaterPromise() {
-        SharedRegisters x = new SharedRegisters();
+        Story x = new Story();
         x.ask(0, 0, 2, 6L);
         x.run(1000);
         x.ask(0, 0, 2, 7L);
@@ -129,7 +129,7 @@ public final class KeepersTest {
         CHECK.due("10: that one's is the greater", x.keeper(5, 0, 0), 8);
         CHECK.due("10: with what was accepted", x.keeper(5, 0, 1), 4);
 
-        SharedRegisters own = new SharedRegisters();
+        Story own = new Story();
         own.ask(0, 0, 2, 6L);
         own.run(1000);
         own.plan(3, 0, 1 << 5, 1);
@@ -142,20 +142,20 @@ public final class KeepersTest {
     }
 
     private static void copyLeavesAnEqualOrLesserOne() {
-        SharedRegisters x = new SharedRegisters();
+        Story x = new Story();
         x.ask(0, 0, 2, 6L);
         x.run(1000);
         x.ask(0, 0, 2, 7L);
         x.take(0);
-        String before = View.of(x);
+        String before = x.view();
         CHECK.due("10: equal", x.copy(1, 0), 0);
-        CHECK.same("10: the promise is not copied alone", View.of(x), before);
+        CHECK.same("10: the promise is not copied alone", x.view(), before);
         CHECK.due("10: from one that has none", x.copy(0, 7), 0);
-        CHECK.same("10: nothing is taken away", View.of(x), before);
+        CHECK.same("10: nothing is taken away", x.view(), before);
     }
 
     private static void copyOfAbsence() {
-        SharedRegisters x = new SharedRegisters();
+        Story x = new Story();
         x.ask(0, 0, 2, 6L);
         x.run(1000);
         x.copy(4, 0);
@@ -168,7 +168,7 @@ public final class KeepersTest {
     }
 
     private static void keeperAndKept() {
-        SharedRegisters x = new SharedRegisters();
+        Story x = new Story();
         x.plan(2, 0, 1 << 8, 1);
         x.plan(2, 1, 1 << 8, 1);
         x.ask(2, 3, 2, Long.MIN_VALUE);
@@ -193,23 +193,23 @@ public final class KeepersTest {
     }
 
     private static void refuses() {
-        SharedRegisters x = new SharedRegisters();
+        Story x = new Story();
         x.ask(0, 0, 2, 5L);
         x.run(1000);
         for (int wrong : NO_KEEPERS) {
-            CHECK.outOfBounds("9: " + wrong, x, () -> x.down(wrong, true));
-            CHECK.outOfBounds("10: to " + wrong, x, () -> x.copy(wrong, 0));
-            CHECK.outOfBounds("10: from " + wrong, x, () -> x.copy(3, wrong));
-            CHECK.outOfBounds("10: both " + wrong, x, () -> x.copy(wrong, wrong));
-            CHECK.outOfBounds("13: " + wrong, x, () -> x.keeper(wrong, 0, 0));
-            CHECK.outOfBounds("14: " + wrong, x, () -> x.kept(wrong, 0));
+            CHECK.outOfBounds("9: " + wrong, x, s -> s.down(wrong, true));
+            CHECK.outOfBounds("10: to " + wrong, x, s -> s.copy(wrong, 0));
+            CHECK.outOfBounds("10: from " + wrong, x, s -> s.copy(3, wrong));
+            CHECK.outOfBounds("10: both " + wrong, x, s -> s.copy(wrong, wrong));
+            CHECK.outOfBounds("13: " + wrong, x, s -> s.keeper(wrong, 0, 0));
+            CHECK.outOfBounds("14: " + wrong, x, s -> s.kept(wrong, 0));
         }
         for (int wrong : NO_KEYS) {
-            CHECK.outOfBounds("13: key " + wrong, x, () -> x.keeper(0, wrong, 0));
-            CHECK.outOfBounds("14: key " + wrong, x, () -> x.kept(0, wrong));
+            CHECK.outOfBounds("13: key " + wrong, x, s -> s.keeper(0, wrong, 0));
+            CHECK.outOfBounds("14: key " + wrong, x, s -> s.kept(0, wrong));
         }
         for (int wrong : new int[] {-1, 3, Integer.MIN_VALUE, Integer.MAX_VALUE}) {
-            CHECK.outOfBounds("13: what " + wrong, x, () -> x.keeper(0, 0, wrong));
+            CHECK.outOfBounds("13: what " + wrong, x, s -> s.keeper(0, 0, wrong));
         }
         for (int keeper = 0; keeper < 9; keeper++) {
             CHECK.due("9: none was put down", x.down(keeper, false), false);

@@ -29,66 +29,60 @@ public final class MessagesTest {
     }
 
     private static void takeEachSort() {
-        SharedRegisters x = new SharedRegisters();
+        Story x = new Story();
         x.plan(0, 0, 1, 1);
         x.plan(0, 1, 1, 1);
         x.ask(0, 0, 2, 5L);
-        row(x, 0, 0, 0, 0, 0, 4, -1);
+        CHECK.message("12: parts", x, 0, 0, 0, 0, 0, 4, -1);
         CHECK.due("5: PREPARE", x.take(0), 0);
-        row(x, 0, 1, 0, 0, 0, 0, -1);
+        CHECK.message("12: parts", x, 0, 1, 0, 0, 0, 0, -1);
         CHECK.due("5: PROMISED", x.take(0), 1);
-        row(x, 0, 2, 0, 0, 0, 4, 1);
+        CHECK.message("12: parts", x, 0, 2, 0, 0, 0, 4, 1);
         CHECK.due("5: ACCEPT", x.take(0), 2);
-        row(x, 0, 3, 0, 0, 0, 4, -1);
+        CHECK.message("12: parts", x, 0, 3, 0, 0, 0, 4, -1);
         CHECK.due("5: TAKEN", x.take(0), 3);
         CHECK.due("11: none is left", x.messages(), 0);
 
         x.ask(0, 0, 2, 6L);
         x.take(0);
-        row(x, 0, 1, 0, 0, 1, 4, 1);
+        CHECK.message("12: parts", x, 0, 1, 0, 0, 1, 4, 1);
         x.take(0);
-        row(x, 0, 2, 0, 0, 1, 8, 2);
+        CHECK.message("12: parts", x, 0, 2, 0, 0, 1, 8, 2);
         x.ask(1, 0, 0, 0L);
         x.take(0);
         x.take(2);
-        row(x, 2, 3, 0, 0, 1, 8, -1);
+        CHECK.message("12: parts", x, 2, 3, 0, 0, 1, 8, -1);
         x.twice(0);
         x.take(0);
-        row(x, 4, 4, 1, 0, 2, 8, -1);
+        CHECK.message("12: parts", x, 4, 4, 1, 0, 2, 8, -1);
         CHECK.due("5: REFUSED", x.take(4), 4);
         CHECK.due("5: it is lost", x.request(2, 0), 2);
     }
 
-    private static void row(SharedRegisters x, int i, int... want) {
-        for (int what = 0; what < want.length; what++) {
-            CHECK.due("12: message(" + i + ", " + what + ")", x.message(i, what), want[what]);
-        }
-    }
-
     private static void takeInAnyOrder() {
-        SharedRegisters x = new SharedRegisters();
+        Story x = new Story();
         x.ask(2, 1, 1, 9L);
         CHECK.due("5: the last", x.take(2), 0);
-        row(x, 0, 0, 2, 0, 0, 6, -1);
-        row(x, 1, 0, 2, 1, 0, 6, -1);
-        row(x, 2, 1, 2, 2, 0, 0, -1);
+        CHECK.message("12: parts", x, 0, 0, 2, 0, 0, 6, -1);
+        CHECK.message("12: parts", x, 1, 0, 2, 1, 0, 6, -1);
+        CHECK.message("12: parts", x, 2, 1, 2, 2, 0, 0, -1);
         CHECK.due("5: the middle", x.take(1), 0);
-        row(x, 0, 0, 2, 0, 0, 6, -1);
-        row(x, 1, 1, 2, 2, 0, 0, -1);
-        row(x, 2, 1, 2, 1, 0, 0, -1);
+        CHECK.message("12: parts", x, 0, 0, 2, 0, 0, 6, -1);
+        CHECK.message("12: parts", x, 1, 1, 2, 2, 0, 0, -1);
+        CHECK.message("12: parts", x, 2, 1, 2, 1, 0, 0, -1);
         x.take(2);
         CHECK.due("5: one counts", x.asker(2, 3), 1);
         x.take(1);
         CHECK.due("5: accepting", x.asker(2, 2), 1);
         CHECK.due("5: the answers begin anew", x.asker(2, 3), 0);
         for (int i = 0; i < 3; i++) {
-            row(x, i + 1, 2, 2, i, 0, 6, 1);
+            CHECK.message("12: parts", x, i + 1, 2, 2, i, 0, 6, 1);
         }
         CHECK.due("11: four", x.messages(), 4);
     }
 
     private static void promisedTwiceCountsOnce() {
-        SharedRegisters x = new SharedRegisters();
+        Story x = new Story();
         x.ask(0, 0, 2, 1L);
         x.take(0);
         x.twice(2);
@@ -101,7 +95,7 @@ public final class MessagesTest {
     }
 
     private static void takenTwiceCountsOnce() {
-        SharedRegisters x = new SharedRegisters();
+        Story x = new Story();
         x.ask(0, 0, 2, 1L);
         x.run(7);
         x.take(0);
@@ -119,7 +113,7 @@ public final class MessagesTest {
     }
 
     private static void lateAnswersAreGone() {
-        SharedRegisters x = new SharedRegisters();
+        Story x = new Story();
         x.ask(0, 0, 2, 1L);
         x.run(5);
         CHECK.due("5: accepting", x.asker(0, 2), 1);
@@ -128,10 +122,10 @@ public final class MessagesTest {
         x.run(5);
         CHECK.due("5: done", x.request(0, 0), 1);
         x.ask(0, 0, 4, 1L);
-        String before = View.of(x);
+        String before = x.view();
         CHECK.due("5: TAKEN of the last one", x.take(0), 3);
         CHECK.due("5: does not count for this", x.asker(0, 3), 0);
-        CHECK.due("5: one message less", before.length() > View.of(x).length(), true);
+        CHECK.due("5: one message less", before.length() > x.view().length(), true);
         x.run(3);
         x.give(0);
         x.ask(0, 1, 2, 3L);
@@ -143,13 +137,13 @@ public final class MessagesTest {
     }
 
     private static void prepareTwiceIsRefused() {
-        SharedRegisters x = new SharedRegisters();
+        Story x = new Story();
         x.ask(1, 0, 2, 1L);
         x.twice(0);
         x.take(0);
         CHECK.due("5: promised", x.keeper(0, 0, 0), 5);
         x.take(2);
-        row(x, 3, 4, 1, 0, 0, 5, -1);
+        CHECK.message("12: parts", x, 3, 4, 1, 0, 0, 5, -1);
         CHECK.due("5: the promise stays", x.keeper(0, 0, 0), 5);
         x.take(3);
         CHECK.due("5: refused, so it is lost", x.request(0, 0), 2);
@@ -157,7 +151,7 @@ public final class MessagesTest {
     }
 
     private static void acceptTwiceIsTakenTwice() {
-        SharedRegisters x = new SharedRegisters();
+        Story x = new Story();
         x.ask(0, 0, 2, 3L);
         x.run(6);
         x.twice(0);
@@ -170,7 +164,7 @@ public final class MessagesTest {
     }
 
     private static void acceptWithoutPromise() {
-        SharedRegisters x = new SharedRegisters();
+        Story x = new Story();
         x.plan(0, 1, 1 << 8, 1);
         x.ask(0, 3, 2, -4L);
         x.run(1000);
@@ -180,14 +174,14 @@ public final class MessagesTest {
     }
 
     private static void acceptBelowThePromise() {
-        SharedRegisters x = new SharedRegisters();
+        Story x = new Story();
         x.ask(0, 0, 2, 1L);
         x.run(6);
         x.ask(1, 0, 2, 2L);
         x.take(3);
         CHECK.due("5: a greater promise", x.keeper(0, 0, 0), 5);
         x.take(0);
-        row(x, 5, 4, 0, 0, 0, 5, -1);
+        CHECK.message("12: parts", x, 5, 4, 0, 0, 0, 5, -1);
         CHECK.due("5: nothing is accepted", x.keeper(0, 0, 1), 0);
         CHECK.due("5: the promise stays", x.keeper(0, 0, 0), 5);
         x.take(5);
@@ -197,7 +191,7 @@ public final class MessagesTest {
     }
 
     private static void acceptBelowTheAccepted() {
-        SharedRegisters x = new SharedRegisters();
+        Story x = new Story();
         x.ask(0, 0, 2, 1L);
         x.run(6);
         x.ask(1, 0, 2, 2L);
@@ -218,13 +212,13 @@ public final class MessagesTest {
     }
 
     private static void prepareBelowTheAccepted() {
-        SharedRegisters x = new SharedRegisters();
+        Story x = new Story();
         x.ask(1, 0, 2, 2L);
         x.run(1000);
         x.ask(0, 0, 2, 1L);
         CHECK.due("5: a ballot below the accepted", x.request(1, 3), 4);
         x.take(0);
-        row(x, 2, 4, 0, 0, 1, 5, -1);
+        CHECK.message("12: parts", x, 2, 4, 0, 0, 1, 5, -1);
         CHECK.due("5: no promise", x.keeper(0, 0, 0), 0);
         CHECK.due("5: another key's is not refused", x.ask(2, 1, 0, 0L), 2);
         x.take(3);
@@ -232,7 +226,7 @@ public final class MessagesTest {
     }
 
     private static void refusedRaisesTheCount() {
-        SharedRegisters x = new SharedRegisters();
+        Story x = new Story();
         for (int i = 0; i < 5; i++) {
             x.ask(3, 0, 0, 0L);
             x.give(3);
@@ -250,7 +244,7 @@ public final class MessagesTest {
     }
 
     private static void refusedOfAnEndedRequest() {
-        SharedRegisters x = new SharedRegisters();
+        Story x = new Story();
         for (int i = 0; i < 5; i++) {
             x.ask(3, 0, 0, 0L);
             x.give(3);
@@ -271,7 +265,7 @@ public final class MessagesTest {
     }
 
     private static void refusedNeverLowersTheCount() {
-        SharedRegisters x = new SharedRegisters();
+        Story x = new Story();
         x.ask(0, 0, 0, 0L);
         x.twice(0);
         x.take(3);
@@ -280,7 +274,7 @@ public final class MessagesTest {
         x.ask(0, 0, 0, 0L);
         x.give(0);
         x.ask(0, 0, 0, 0L);
-        row(x, 3, 4, 0, 0, 0, 4, -1);
+        CHECK.message("12: parts", x, 3, 4, 0, 0, 0, 4, -1);
         CHECK.due("5: an old REFUSED", x.take(3), 4);
         CHECK.due("5: the count stays", x.asker(0, 0), 3);
         CHECK.due("5: and the request goes on", x.asker(0, 1), 2);
@@ -289,7 +283,7 @@ public final class MessagesTest {
     /** Keeper 0 has ballot 4 and keeper 1 ballot 9; whichever answers last, the state of 9 is changed. */
     private static void greatestBallotIsChanged() {
         for (int first = 0; first < 2; first++) {
-            SharedRegisters x = new SharedRegisters();
+            Story x = new Story();
             x.plan(0, 0, 0b11, 2);
             x.plan(0, 1, 0b01, 1);
             x.ask(0, 0, 2, 100L);
@@ -312,7 +306,7 @@ public final class MessagesTest {
             CHECK.due("12: and the version", x.message(1 - first, 5), 2);
             x.take(0);
             x.take(0);
-            row(x, 0, 2, 0, 0, 4, 12, 3);
+            CHECK.message("12: parts", x, 0, 2, 0, 0, 4, 12, 3);
             x.run(1000);
             CHECK.due("5: the greatest is changed", x.result(4), 71);
         }
@@ -320,29 +314,27 @@ public final class MessagesTest {
 
     /** At 300 messages what is taken leaves its room to the first that is sent. */
     private static void answersAtTheRim() {
-        SharedRegisters x = new SharedRegisters();
+        Story x = new Story();
         x.ask(0, 0, 2, 1L);
         x.take(0);
         x.take(0);
-        while (x.messages() < 300) {
-            x.twice(0);
-        }
+        x.fill(0, 300);
         x.take(0);
         CHECK.due("5: the answer has room", x.messages(), 300);
-        row(x, 299, 1, 0, 2, 0, 0, -1);
-        row(x, 0, 1, 0, 0, 0, 0, -1);
+        CHECK.message("12: parts", x, 299, 1, 0, 2, 0, 0, -1);
+        CHECK.message("12: parts", x, 0, 1, 0, 0, 0, 0, -1);
         x.take(0);
         CHECK.due("5: nothing is sent", x.messages(), 299);
         x.twice(1);
         x.take(0);
         CHECK.due("5: one of three has room", x.messages(), 300);
         CHECK.due("5: accepting, though", x.asker(0, 2), 1);
-        row(x, 299, 2, 0, 0, 0, 4, 1);
+        CHECK.message("12: parts", x, 299, 2, 0, 0, 0, 4, 1);
         CHECK.due("11: still 300", x.messages(), 300);
     }
 
     private static void run() {
-        SharedRegisters x = new SharedRegisters();
+        Story x = new Story();
         CHECK.due("6: none there", x.run(1000), 0);
         x.ask(0, 0, 2, 4L);
         CHECK.due("6: 0", x.run(0), 0);
@@ -354,19 +346,19 @@ public final class MessagesTest {
         CHECK.due("6: none is left", x.messages(), 0);
         CHECK.due("6: done", x.request(0, 0), 1);
         for (int wrong : new int[] {-1, 1001, MIN, MAX}) {
-            CHECK.illegal("6: n " + wrong, x, () -> x.run(wrong));
+            CHECK.illegal("6: n " + wrong, x, s -> s.run(wrong));
         }
     }
 
     private static void lose() {
-        SharedRegisters x = new SharedRegisters();
+        Story x = new Story();
         x.ask(0, 0, 2, 4L);
         x.take(0);
         CHECK.due("7: the middle", x.lose(1), 0);
         CHECK.due("7: no effect", x.keeper(2, 0, 0), 0);
         CHECK.due("7: two left", x.messages(), 2);
-        row(x, 0, 0, 0, 1);
-        row(x, 1, 1, 0, 0);
+        CHECK.message("12: parts", x, 0, 0, 0, 1);
+        CHECK.message("12: parts", x, 1, 1, 0, 0);
         CHECK.due("7: the last", x.lose(1), 1);
         CHECK.due("7: it does not count", x.asker(0, 3), 0);
         CHECK.due("7: the first", x.lose(0), 0);
@@ -375,29 +367,26 @@ public final class MessagesTest {
     }
 
     private static void twice() {
-        SharedRegisters x = new SharedRegisters();
+        Story x = new Story();
         x.ask(3, 2, 2, 4L);
         CHECK.due("8: twice", x.twice(1), 4);
-        row(x, 3, 0, 3, 1, 0, 7, -1);
-        row(x, 1, 0, 3, 1, 0, 7, -1);
+        CHECK.message("12: parts", x, 3, 0, 3, 1, 0, 7, -1);
+        CHECK.message("12: parts", x, 1, 0, 3, 1, 0, 7, -1);
         x.lose(0);
         x.run(5);
         CHECK.due("8: a PREPARE that came again is taken, too", x.message(0, 0), 4);
-        while (x.messages() < 300) {
-            int before = x.messages();
+        for (int before = x.messages(); before < 300; before++) {
             CHECK.due("8: one more", x.twice(before - 1), before + 1);
         }
-        String full = View.of(x);
-        CHECK.due("8: 300", x.twice(0), -1);
-        CHECK.due("8: 300, the last", x.twice(299), -1);
-        CHECK.same("8: NONE changes nothing", View.of(x), full);
-        CHECK.outOfBounds("8: index before NONE", x, () -> x.twice(300));
+        CHECK.none("8: 300", x, s -> s.twice(0));
+        CHECK.none("8: 300, the last", x, s -> s.twice(299));
+        CHECK.outOfBounds("8: index before NONE", x, s -> s.twice(300));
 
-        SharedRegisters accepting = new SharedRegisters();
+        Story accepting = new Story();
         accepting.ask(0, 0, 2, 44L);
         accepting.run(6);
         accepting.twice(1);
-        row(accepting, 3, 2, 0, 1, 0, 4, 1);
+        CHECK.message("12: parts", accepting, 3, 2, 0, 1, 0, 4, 1);
         accepting.lose(0);
         accepting.lose(0);
         accepting.lose(0);
@@ -406,21 +395,21 @@ public final class MessagesTest {
     }
 
     private static void refusesWrongIndexes() {
-        SharedRegisters empty = new SharedRegisters();
-        CHECK.outOfBounds("5: empty", empty, () -> empty.take(0));
-        CHECK.outOfBounds("7: empty", empty, () -> empty.lose(0));
-        CHECK.outOfBounds("8: empty", empty, () -> empty.twice(0));
-        CHECK.outOfBounds("12: empty", empty, () -> empty.message(0, 0));
-        SharedRegisters x = new SharedRegisters();
+        Story empty = new Story();
+        CHECK.outOfBounds("5: empty", empty, s -> s.take(0));
+        CHECK.outOfBounds("7: empty", empty, s -> s.lose(0));
+        CHECK.outOfBounds("8: empty", empty, s -> s.twice(0));
+        CHECK.outOfBounds("12: empty", empty, s -> s.message(0, 0));
+        Story x = new Story();
         x.ask(0, 0, 2, 4L);
         for (int wrong : new int[] {-1, 3, 299, 300, 301, MIN, MAX}) {
-            CHECK.outOfBounds("5: " + wrong, x, () -> x.take(wrong));
-            CHECK.outOfBounds("7: " + wrong, x, () -> x.lose(wrong));
-            CHECK.outOfBounds("8: " + wrong, x, () -> x.twice(wrong));
-            CHECK.outOfBounds("12: " + wrong, x, () -> x.message(wrong, 0));
+            CHECK.outOfBounds("5: " + wrong, x, s -> s.take(wrong));
+            CHECK.outOfBounds("7: " + wrong, x, s -> s.lose(wrong));
+            CHECK.outOfBounds("8: " + wrong, x, s -> s.twice(wrong));
+            CHECK.outOfBounds("12: " + wrong, x, s -> s.message(wrong, 0));
         }
         for (int wrong : new int[] {-1, 6, MIN, MAX}) {
-            CHECK.outOfBounds("12: what " + wrong, x, () -> x.message(0, wrong));
+            CHECK.outOfBounds("12: what " + wrong, x, s -> s.message(0, wrong));
         }
     }
 }

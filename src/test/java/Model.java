@@ -7,9 +7,9 @@ import java.util.Set;
 
 /**
  * The document once more, in other words and as plainly as the Java library allows: nothing is used again,
- * nothing is shared that changes. Arguments are taken to be right ones.
+ * nothing is shared that changes.
  */
-final class Model {
+final class Model implements Face {
     record State(int version, long value) {
     }
 
@@ -46,6 +46,22 @@ final class Model {
     final Map<Integer, Plan> plans = new HashMap<>();
     final int[] counts = new int[4];
 
+    private static void exists(boolean is) {
+        if (!is) {
+            throw new IndexOutOfBoundsException();
+        }
+    }
+
+    private static void fits(boolean is) {
+        if (!is) {
+            throw new IllegalArgumentException();
+        }
+    }
+
+    private static boolean oneOf(int many, int number) {
+        return 0 <= number && number < many;
+    }
+
     private static int place(int keeper, int key) {
         return 100 * keeper + key;
     }
@@ -77,7 +93,10 @@ final class Model {
         }
     }
 
-    int ask(int asker, int key, int change, long argument) {
+    @Override
+    public int ask(int asker, int key, int change, long argument) {
+        exists(oneOf(4, asker) && oneOf(4, key));
+        fits(oneOf(7, change));
         if (requestOf(asker) >= 0 || requests.size() == 200) {
             return -1;
         }
@@ -100,7 +119,9 @@ final class Model {
         return number;
     }
 
-    int give(int asker) {
+    @Override
+    public int give(int asker) {
+        exists(oneOf(4, asker));
         int number = requestOf(asker);
         if (number >= 0) {
             requests.get(number).ending = 2;
@@ -108,12 +129,17 @@ final class Model {
         return number;
     }
 
-    int plan(int asker, int which, int set, int enough) {
+    @Override
+    public void plan(int asker, int which, int set, int enough) {
+        exists(oneOf(4, asker) && oneOf(2, which));
+        fits(set >= 1 && set < 512);
+        fits(enough >= 1 && enough <= Integer.toBinaryString(set).replace("0", "").length());
         plans.put(10 * asker + which, new Plan(set, enough));
-        return 0;
     }
 
-    int take(int i) {
+    @Override
+    public int take(int i) {
+        exists(oneOf(row.size(), i));
         Message m = row.remove(i);
         boolean toKeeper = m.sort == 0 || m.sort == 2;
         if (toKeeper && !down.contains(m.keeper)) {
@@ -202,7 +228,9 @@ final class Model {
         };
     }
 
-    int run(int n) {
+    @Override
+    public int run(int n) {
+        fits(n >= 0 && n <= 1000);
         for (int taken = 0; taken < n; taken++) {
             if (row.isEmpty()) {
                 return taken;
@@ -212,11 +240,15 @@ final class Model {
         return n;
     }
 
-    int lose(int i) {
+    @Override
+    public int lose(int i) {
+        exists(oneOf(row.size(), i));
         return row.remove(i).sort;
     }
 
-    int twice(int i) {
+    @Override
+    public int twice(int i) {
+        exists(oneOf(row.size(), i));
         if (row.size() == 300) {
             return -1;
         }
@@ -224,11 +256,15 @@ final class Model {
         return row.size();
     }
 
-    boolean down(int keeper, boolean is) {
+    @Override
+    public boolean down(int keeper, boolean is) {
+        exists(oneOf(9, keeper));
         return is ? !down.add(keeper) : down.remove(keeper);
     }
 
-    int copy(int to, int from) {
+    @Override
+    public int copy(int to, int from) {
+        exists(oneOf(9, to) && oneOf(9, from));
         int copied = 0;
         for (int key = 0; key < 4; key++) {
             if (accepted(from, key).ballot > accepted(to, key).ballot) {
@@ -248,33 +284,52 @@ final class Model {
         return state == null ? 0 : state.value;
     }
 
-    /** The same text as View's, of this model. */
-    String view() {
-        StringBuilder text = new StringBuilder();
-        for (Message m : row) {
-            text.append("m ").append(m.sort).append(' ').append(m.asker).append(' ').append(m.keeper).append(' ')
-                    .append(m.request).append(' ').append(m.ballot).append(' ').append(version(m.state)).append(';');
-        }
-        for (int keeper = 0; keeper < 9; keeper++) {
-            for (int key = 0; key < 4; key++) {
-                Accepted has = accepted(keeper, key);
-                text.append("k ").append(promise(keeper, key)).append(' ').append(has.ballot).append(' ')
-                        .append(version(has.state)).append(' ').append(value(has.state)).append(';');
-            }
-        }
-        for (int asker = 0; asker < 4; asker++) {
-            int number = requestOf(asker);
-            Request current = number < 0 ? new Request() : requests.get(number);
-            int answers = current.isAccepting ? current.taken.size() : current.promised.size();
-            text.append("a ").append(counts[asker]).append(' ').append(number).append(' ')
-                    .append(current.isAccepting ? 1 : 0).append(' ').append(answers).append(';');
-        }
-        for (Request request : requests) {
-            State state = request.ending == 1 ? request.outcome : null;
-            text.append("r ").append(request.ending).append(' ')
-                    .append(request.ending == 1 && request.failed ? 1 : 0).append(' ').append(version(state))
-                    .append(' ').append(request.ballot).append(' ').append(value(state)).append(';');
-        }
-        return text.toString();
+    @Override
+    public int messages() {
+        return row.size();
+    }
+
+    @Override
+    public int message(int i, int what) {
+        exists(oneOf(row.size(), i) && oneOf(6, what));
+        Message m = row.get(i);
+        return List.of(m.sort, m.asker, m.keeper, m.request, m.ballot, version(m.state)).get(what);
+    }
+
+    @Override
+    public int keeper(int keeper, int key, int what) {
+        exists(oneOf(9, keeper) && oneOf(4, key) && oneOf(3, what));
+        Accepted has = accepted(keeper, key);
+        return List.of(promise(keeper, key), has.ballot, version(has.state)).get(what);
+    }
+
+    @Override
+    public long kept(int keeper, int key) {
+        exists(oneOf(9, keeper) && oneOf(4, key));
+        return value(accepted(keeper, key).state);
+    }
+
+    @Override
+    public int asker(int asker, int what) {
+        exists(oneOf(4, asker) && oneOf(4, what));
+        int number = requestOf(asker);
+        Request current = number < 0 ? new Request() : requests.get(number);
+        int answers = current.isAccepting ? current.taken.size() : current.promised.size();
+        return List.of(counts[asker], number, current.isAccepting ? 1 : 0, answers).get(what);
+    }
+
+    @Override
+    public int request(int r, int what) {
+        exists(oneOf(requests.size(), r) && oneOf(4, what));
+        Request request = requests.get(r);
+        boolean isDone = request.ending == 1;
+        return List.of(request.ending, isDone && request.failed ? 1 : 0, isDone ? version(request.outcome) : -1,
+                request.ballot).get(what);
+    }
+
+    @Override
+    public long result(int r) {
+        exists(oneOf(requests.size(), r));
+        return requests.get(r).ending == 1 ? value(requests.get(r).outcome) : 0;
     }
 }

@@ -26,7 +26,7 @@ public final class RequestsTest {
     }
 
     private static void asker() {
-        SharedRegisters x = new SharedRegisters();
+        Story x = new Story();
         x.plan(2, 0, 511, 5);
         x.plan(2, 1, 511, 9);
         x.ask(2, 0, SET, 5L);
@@ -57,7 +57,7 @@ public final class RequestsTest {
     }
 
     private static void request() {
-        SharedRegisters x = new SharedRegisters();
+        Story x = new Story();
         x.ask(1, 0, SET, -5L);
         for (int i = 0; i < 10; i++) {
             CHECK.due("16: going on", x.request(0, 0), 0);
@@ -88,7 +88,7 @@ public final class RequestsTest {
     }
 
     private static void failedIsToldWhenDone() {
-        SharedRegisters x = new SharedRegisters();
+        Story x = new Story();
         x.ask(0, 0, SET, 5L);
         x.run(1000);
         x.ask(0, 0, BEGIN, 9L);
@@ -105,7 +105,7 @@ public final class RequestsTest {
     }
 
     /** Asks and runs to the end; the outcome is looked at, and what keepers 0 to 2 keep then. */
-    private static void change(SharedRegisters x, int change, long argument, int failed, int version, long value) {
+    private static void change(Story x, int change, long argument, int failed, int version, long value) {
         String what = "change " + change + " " + argument;
         int r = x.ask(0, 0, change, argument);
         CHECK.due(what + " runs", x.run(1000), 12);
@@ -125,7 +125,7 @@ public final class RequestsTest {
     }
 
     private static void readChanges() {
-        SharedRegisters x = new SharedRegisters();
+        Story x = new Story();
         change(x, READ, 99L, 0, -1, 0L);
         change(x, SET, 8L, 0, 1, 8L);
         change(x, READ, 99L, 0, 1, 8L);
@@ -133,7 +133,7 @@ public final class RequestsTest {
     }
 
     private static void beginChanges() {
-        SharedRegisters x = new SharedRegisters();
+        Story x = new Story();
         change(x, BEGIN, Long.MAX_VALUE, 0, 1, Long.MAX_VALUE);
         change(x, BEGIN, 3L, 1, 1, Long.MAX_VALUE);
         change(x, TAKE_AWAY, 0L, 0, -1, 0L);
@@ -142,14 +142,14 @@ public final class RequestsTest {
     }
 
     private static void setChanges() {
-        SharedRegisters x = new SharedRegisters();
+        Story x = new Story();
         change(x, SET, Long.MIN_VALUE, 0, 1, Long.MIN_VALUE);
         change(x, SET, 3L, 0, 2, 3L);
         change(x, SET, 3L, 0, 3, 3L);
     }
 
     private static void swapChanges() {
-        SharedRegisters x = new SharedRegisters();
+        Story x = new Story();
         change(x, SWAP, swap(0, 5), 1, -1, 0L);
         change(x, SWAP, swap(-1, 5), 1, -1, 0L);
         change(x, SET, 1L, 0, 1, 1L);
@@ -166,7 +166,7 @@ public final class RequestsTest {
     }
 
     private static void addChanges() {
-        SharedRegisters x = new SharedRegisters();
+        Story x = new Story();
         change(x, ADD, -7L, 0, 1, -7L);
         change(x, ADD, 10L, 0, 2, 3L);
         change(x, ADD, Long.MAX_VALUE, 0, 3, Long.MIN_VALUE + 2);
@@ -177,7 +177,7 @@ public final class RequestsTest {
     }
 
     private static void takeAwayChanges() {
-        SharedRegisters x = new SharedRegisters();
+        Story x = new Story();
         change(x, TAKE_AWAY, 4L, 1, -1, 0L);
         change(x, SET, 4L, 0, 1, 4L);
         change(x, SET, 5L, 0, 2, 5L);
@@ -187,7 +187,7 @@ public final class RequestsTest {
     }
 
     private static void greaterChanges() {
-        SharedRegisters x = new SharedRegisters();
+        Story x = new Story();
         change(x, GREATER, -9L, 0, 1, -9L);
         change(x, GREATER, -9L, 1, 1, -9L);
         change(x, GREATER, -10L, 1, 1, -9L);
@@ -200,7 +200,7 @@ public final class RequestsTest {
     }
 
     private static void keysAreApart() {
-        SharedRegisters x = new SharedRegisters();
+        Story x = new Story();
         for (int asker = 0; asker < 4; asker++) {
             x.ask(asker, asker, ADD, 10L + asker);
         }
@@ -213,18 +213,18 @@ public final class RequestsTest {
     }
 
     private static void refuses() {
-        SharedRegisters x = new SharedRegisters();
-        CHECK.outOfBounds("16: no request", x, () -> x.request(0, 0));
-        CHECK.outOfBounds("17: no request", x, () -> x.result(0));
+        Story x = new Story();
+        CHECK.outOfBounds("16: no request", x, s -> s.request(0, 0));
+        CHECK.outOfBounds("17: no request", x, s -> s.result(0));
         x.ask(0, 0, SET, 1L);
         for (int wrong : new int[] {-1, 1, 199, 200, 201, Integer.MIN_VALUE, Integer.MAX_VALUE}) {
-            CHECK.outOfBounds("16: " + wrong, x, () -> x.request(wrong, 0));
-            CHECK.outOfBounds("17: " + wrong, x, () -> x.result(wrong));
+            CHECK.outOfBounds("16: " + wrong, x, s -> s.request(wrong, 0));
+            CHECK.outOfBounds("17: " + wrong, x, s -> s.result(wrong));
         }
         for (int wrong : new int[] {-1, 4, Integer.MIN_VALUE, Integer.MAX_VALUE}) {
-            CHECK.outOfBounds("15: " + wrong, x, () -> x.asker(wrong, 0));
-            CHECK.outOfBounds("15: what " + wrong, x, () -> x.asker(0, wrong));
-            CHECK.outOfBounds("16: what " + wrong, x, () -> x.request(0, wrong));
+            CHECK.outOfBounds("15: " + wrong, x, s -> s.asker(wrong, 0));
+            CHECK.outOfBounds("15: what " + wrong, x, s -> s.asker(0, wrong));
+            CHECK.outOfBounds("16: what " + wrong, x, s -> s.request(0, wrong));
         }
     }
 }

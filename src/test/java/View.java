@@ -3,9 +3,10 @@ final class View {
     private View() {
     }
 
-    static String of(SharedRegisters x) {
+    static String of(Face x) {
         StringBuilder text = new StringBuilder();
-        for (int i = 0; i < x.messages(); i++) {
+        int messages = x.messages();
+        for (int i = 0; i < messages; i++) {
             text.append("m");
             for (int what = 0; what <= 5; what++) {
                 text.append(' ').append(x.message(i, what));
@@ -28,7 +29,8 @@ final class View {
             }
             text.append(';');
         }
-        for (int r = 0; r < requests(x); r++) {
+        int requests = requests(x);
+        for (int r = 0; r < requests; r++) {
             text.append('r');
             for (int what = 0; what <= 3; what++) {
                 text.append(' ').append(x.request(r, what));
@@ -38,7 +40,7 @@ final class View {
         return text.toString();
     }
 
-    static int requests(SharedRegisters x) {
+    static int requests(Face x) {
         for (int r = 0; r <= 200; r++) {
             try {
                 x.request(r, 0);
