@@ -5,16 +5,16 @@ public final class AskersTest {
     private static final int MAX = Integer.MAX_VALUE;
 
     public static void main(String[] args) {
-        newObject();
-        askBegins();
-        askUsesTheNextCount();
-        askAnswersNone();
-        askLosesWhatHasNoRoom();
-        askRefuses();
-        give();
-        planOfNewRequests();
-        planInEffectStays();
-        planRefuses();
+        CHECK.test("newObject", AskersTest::newObject);
+        CHECK.test("askBegins", AskersTest::askBegins);
+        CHECK.test("askUsesTheNextCount", AskersTest::askUsesTheNextCount);
+        CHECK.test("askAnswersNone", AskersTest::askAnswersNone);
+        CHECK.test("askLosesWhatHasNoRoom", AskersTest::askLosesWhatHasNoRoom);
+        CHECK.test("askRefuses", AskersTest::askRefuses);
+        CHECK.test("give", AskersTest::give);
+        CHECK.test("planOfNewRequests", AskersTest::planOfNewRequests);
+        CHECK.test("planInEffectStays", AskersTest::planInEffectStays);
+        CHECK.test("planRefuses", AskersTest::planRefuses);
         CHECK.end();
     }
 
@@ -130,7 +130,7 @@ public final class AskersTest {
         CHECK.due("3: the asker has none", x.asker(2, 1), -1);
         CHECK.due("3: what was sent stays", x.messages(), 6);
         CHECK.none("3: again", x, s -> s.give(2));
-        x.run(1000);
+        x.runAll();
         CHECK.due("3: answers do not bring it back", x.request(1, 0), 2);
         CHECK.due("3: a done one is none", x.give(0), -1);
 
@@ -139,7 +139,7 @@ public final class AskersTest {
         accepting.run(6);
         CHECK.due("3: accepting", accepting.asker(1, 2), 1);
         CHECK.due("3: give while accepting", accepting.give(1), 0);
-        accepting.run(1000);
+        accepting.runAll();
         CHECK.due("3: lost, though", accepting.request(0, 0), 2);
         CHECK.due("3: it came to be", accepting.kept(0, 0), 8);
         for (int wrong : new int[] {-1, 4, MIN, MAX}) {
@@ -174,7 +174,7 @@ public final class AskersTest {
         all.plan(3, 0, 511, 9);
         all.plan(3, 1, 511, 9);
         all.ask(3, 0, 4, 4L);
-        CHECK.due("4: nine of nine", all.run(1000), 36);
+        CHECK.due("4: nine of nine", all.runAll(), 36);
         CHECK.due("4: done", all.request(0, 0), 1);
     }
 
@@ -187,12 +187,12 @@ public final class AskersTest {
         CHECK.due("4: enough as it was", x.asker(0, 2), 0);
         x.run(1);
         CHECK.due("4: two were enough", x.asker(0, 2), 1);
-        x.run(1000);
+        x.runAll();
         CHECK.due("4: accepted as it was", x.kept(2, 0), 5);
         CHECK.due("4: not by the new set", x.keeper(3, 0, 1), 0);
         x.ask(0, 0, 4, 1L);
         CHECK.due("4: the new set", x.messages(), 1);
-        x.run(1000);
+        x.runAll();
         CHECK.due("4: accepted by the new set", x.kept(3, 0), 6);
         CHECK.due("4: no more by the old one", x.kept(0, 0), 5);
     }
@@ -215,7 +215,7 @@ public final class AskersTest {
             CHECK.illegal("4: enough " + wrong, x, s -> s.plan(0, 1, 0b100100000, wrong));
         }
         x.ask(0, 0, 2, 1L);
-        CHECK.due("4: what was refused changed no set", x.run(1000), 12);
+        CHECK.due("4: what was refused changed no set", x.runAll(), 12);
         CHECK.due("4: nor what is enough", x.request(0, 0), 1);
     }
 }

@@ -8,37 +8,37 @@ public final class CallsBoundaryTest {
     private static final int TAKE_AWAY = 5;
 
     public static void main(String[] args) {
-        newObjectIsEmpty();
-        askNumbers();
-        askNoneWhenTheAskerHasOne();
-        askNoneWhenThereWere200();
-        askOutOfBounds();
-        askIllegal();
-        askFirstNamed();
-        giveNone();
-        giveOutOfBounds();
-        planFromNowOn();
-        planOutOfBounds();
-        planSet();
-        planEnough();
-        planFirstNamed();
-        takeFirstAndLast();
-        takeOutOfBounds();
-        runAsFarAsThereAre();
-        runIllegal();
-        loseFirstAndLast();
-        loseOutOfBounds();
-        twiceAtTheEnd();
-        twiceNone();
-        twiceOutOfBounds();
-        downWas();
-        downKeeps();
-        downOutOfBounds();
-        copyGreaterOnly();
-        copyPromise();
-        copyHowManyKeys();
-        copyItself();
-        copyOutOfBounds();
+        CHECK.test("newObjectIsEmpty", CallsBoundaryTest::newObjectIsEmpty);
+        CHECK.test("askNumbers", CallsBoundaryTest::askNumbers);
+        CHECK.test("askNoneWhenTheAskerHasOne", CallsBoundaryTest::askNoneWhenTheAskerHasOne);
+        CHECK.test("askNoneWhenThereWere200", CallsBoundaryTest::askNoneWhenThereWere200);
+        CHECK.test("askOutOfBounds", CallsBoundaryTest::askOutOfBounds);
+        CHECK.test("askIllegal", CallsBoundaryTest::askIllegal);
+        CHECK.test("askFirstNamed", CallsBoundaryTest::askFirstNamed);
+        CHECK.test("giveNone", CallsBoundaryTest::giveNone);
+        CHECK.test("giveOutOfBounds", CallsBoundaryTest::giveOutOfBounds);
+        CHECK.test("planFromNowOn", CallsBoundaryTest::planFromNowOn);
+        CHECK.test("planOutOfBounds", CallsBoundaryTest::planOutOfBounds);
+        CHECK.test("planSet", CallsBoundaryTest::planSet);
+        CHECK.test("planEnough", CallsBoundaryTest::planEnough);
+        CHECK.test("planFirstNamed", CallsBoundaryTest::planFirstNamed);
+        CHECK.test("takeFirstAndLast", CallsBoundaryTest::takeFirstAndLast);
+        CHECK.test("takeOutOfBounds", CallsBoundaryTest::takeOutOfBounds);
+        CHECK.test("runAsFarAsThereAre", CallsBoundaryTest::runAsFarAsThereAre);
+        CHECK.test("runIllegal", CallsBoundaryTest::runIllegal);
+        CHECK.test("loseFirstAndLast", CallsBoundaryTest::loseFirstAndLast);
+        CHECK.test("loseOutOfBounds", CallsBoundaryTest::loseOutOfBounds);
+        CHECK.test("twiceAtTheEnd", CallsBoundaryTest::twiceAtTheEnd);
+        CHECK.test("twiceNone", CallsBoundaryTest::twiceNone);
+        CHECK.test("twiceOutOfBounds", CallsBoundaryTest::twiceOutOfBounds);
+        CHECK.test("downWas", CallsBoundaryTest::downWas);
+        CHECK.test("downKeeps", CallsBoundaryTest::downKeeps);
+        CHECK.test("downOutOfBounds", CallsBoundaryTest::downOutOfBounds);
+        CHECK.test("copyGreaterOnly", CallsBoundaryTest::copyGreaterOnly);
+        CHECK.test("copyPromise", CallsBoundaryTest::copyPromise);
+        CHECK.test("copyHowManyKeys", CallsBoundaryTest::copyHowManyKeys);
+        CHECK.test("copyItself", CallsBoundaryTest::copyItself);
+        CHECK.test("copyOutOfBounds", CallsBoundaryTest::copyOutOfBounds);
         CHECK.end();
     }
 
@@ -111,16 +111,16 @@ public final class CallsBoundaryTest {
         Story given = x.again();
         given.give(0);
         CHECK.due("when it is LOST", given.ask(0, 1, SET, 6L), 1);
-        x.run(1000);
+        x.runAll();
         CHECK.due("when it is DONE", x.ask(0, 1, SET, 6L), 1);
     }
 
     private static void askNoneWhenThereWere200() {
         CHECK.sentence("2: NONE when there were 200");
         Story x = askedTimes(199);
-        x.run(1000);
+        x.runAll();
         CHECK.due("the 200th", x.ask(3, 0, SET, 7L), 199);
-        x.run(1000);
+        x.runAll();
         CHECK.due("it goes its way", x.request(199, 0), 1);
         for (int asker = 0; asker < 4; asker++) {
             int by = asker;
@@ -176,7 +176,7 @@ public final class CallsBoundaryTest {
         CHECK.none("it is LOST", x, s -> s.give(0));
         CHECK.none("another ASKER", x, s -> s.give(2));
         CHECK.due("that of the other one goes on", x.request(0, 0), 0);
-        x.run(1000);
+        x.runAll();
         CHECK.due("that one is DONE", x.request(0, 0), 1);
         CHECK.none("it is DONE", x, s -> s.give(1));
     }
@@ -200,11 +200,11 @@ public final class CallsBoundaryTest {
         x.plan(0, 0, 8, 1);
         x.plan(0, 1, 16, 1);
         CHECK.due("what was sent stays", x.messages(), 3);
-        CHECK.due("it runs as it began", x.run(1000), 12);
+        CHECK.due("it runs as it began", x.runAll(), 12);
         CHECK.due("accepted as it began", x.kept(2, 0), 5);
         x.ask(0, 0, SET, 6L);
         CHECK.message("the next one", x, 0, 0, 0, 3);
-        CHECK.due("it runs by the new PLAN", x.run(1000), 4);
+        CHECK.due("it runs by the new PLAN", x.runAll(), 4);
         CHECK.due("accepted by the new PLAN", x.kept(4, 0), 6);
     }
 
@@ -243,7 +243,7 @@ public final class CallsBoundaryTest {
             fine.plan(0, 1, set, 1);
             fine.ask(0, 0, SET, 5L);
             CHECK.due("set " + set, fine.messages(), Integer.bitCount(set));
-            fine.run(1000);
+            fine.runAll();
             CHECK.due("set " + set + " is DONE", fine.request(0, 0), 1);
         }
     }
@@ -264,7 +264,7 @@ public final class CallsBoundaryTest {
                 x.plan(3, part, high, 1);
                 x.plan(3, part, high, many);
             }
-            x.run(1000);
+            x.runAll();
             x.down(4, false);
             int r = x.change(3, 2, SET, 5L);
             CHECK.due(many + " of " + many, x.request(r, 0), 1);

@@ -13,6 +13,15 @@ final class Check {
         this.name = name;
     }
 
+    /** One that throws has failed, and the others are still run. */
+    void test(String what, Runnable test) {
+        try {
+            test.run();
+        } catch (RuntimeException e) {
+            fault(what + " threw " + e);
+        }
+    }
+
     /** What is looked at from now on belongs to this sentence of the document. */
     void sentence(String text) {
         needLooks();

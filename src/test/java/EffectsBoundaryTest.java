@@ -8,38 +8,38 @@ public final class EffectsBoundaryTest {
     private static final int TAKE_AWAY = 5;
 
     public static void main(String[] args) {
-        prepareAndThePromise();
-        prepareAndTheAccepted();
-        prepareAbovePromiseOnly();
-        prepareAboveAcceptedOnly();
-        prepareOfAnotherKey();
-        promisedOfAnotherRequest();
-        promisedWithoutRequest();
-        promisedWhileAccepting();
-        promisedTwice();
-        promisedEnough();
-        greatestBallotTold();
-        greatestBallotOfAbsence();
-        onlyWhatWasTold();
-        nothingAcceptedTold();
-        acceptByTheSet();
-        acceptAndThePromise();
-        acceptAndTheAccepted();
-        acceptAbovePromiseOnly();
-        promiseIs0Then();
-        takenOfAnotherRequest();
-        takenWithoutRequest();
-        takenTwice();
-        takenEnough();
-        doneWithTheNewState();
-        refusedRaisesToAFourth();
-        refusedLeavesAGreaterCount();
-        refusedLosesThatRequest();
-        refusedOfAnotherRequest();
-        refusedWithoutRequest();
-        lostMayYetComeToBe();
-        downTakesNothing();
-        downAnswersCount();
+        CHECK.test("prepareAndThePromise", EffectsBoundaryTest::prepareAndThePromise);
+        CHECK.test("prepareAndTheAccepted", EffectsBoundaryTest::prepareAndTheAccepted);
+        CHECK.test("prepareAbovePromiseOnly", EffectsBoundaryTest::prepareAbovePromiseOnly);
+        CHECK.test("prepareAboveAcceptedOnly", EffectsBoundaryTest::prepareAboveAcceptedOnly);
+        CHECK.test("prepareOfAnotherKey", EffectsBoundaryTest::prepareOfAnotherKey);
+        CHECK.test("promisedOfAnotherRequest", EffectsBoundaryTest::promisedOfAnotherRequest);
+        CHECK.test("promisedWithoutRequest", EffectsBoundaryTest::promisedWithoutRequest);
+        CHECK.test("promisedWhileAccepting", EffectsBoundaryTest::promisedWhileAccepting);
+        CHECK.test("promisedTwice", EffectsBoundaryTest::promisedTwice);
+        CHECK.test("promisedEnough", EffectsBoundaryTest::promisedEnough);
+        CHECK.test("greatestBallotTold", EffectsBoundaryTest::greatestBallotTold);
+        CHECK.test("greatestBallotOfAbsence", EffectsBoundaryTest::greatestBallotOfAbsence);
+        CHECK.test("onlyWhatWasTold", EffectsBoundaryTest::onlyWhatWasTold);
+        CHECK.test("nothingAcceptedTold", EffectsBoundaryTest::nothingAcceptedTold);
+        CHECK.test("acceptByTheSet", EffectsBoundaryTest::acceptByTheSet);
+        CHECK.test("acceptAndThePromise", EffectsBoundaryTest::acceptAndThePromise);
+        CHECK.test("acceptAndTheAccepted", EffectsBoundaryTest::acceptAndTheAccepted);
+        CHECK.test("acceptAbovePromiseOnly", EffectsBoundaryTest::acceptAbovePromiseOnly);
+        CHECK.test("promiseIs0Then", EffectsBoundaryTest::promiseIs0Then);
+        CHECK.test("takenOfAnotherRequest", EffectsBoundaryTest::takenOfAnotherRequest);
+        CHECK.test("takenWithoutRequest", EffectsBoundaryTest::takenWithoutRequest);
+        CHECK.test("takenTwice", EffectsBoundaryTest::takenTwice);
+        CHECK.test("takenEnough", EffectsBoundaryTest::takenEnough);
+        CHECK.test("doneWithTheNewState", EffectsBoundaryTest::doneWithTheNewState);
+        CHECK.test("refusedRaisesToAFourth", EffectsBoundaryTest::refusedRaisesToAFourth);
+        CHECK.test("refusedLeavesAGreaterCount", EffectsBoundaryTest::refusedLeavesAGreaterCount);
+        CHECK.test("refusedLosesThatRequest", EffectsBoundaryTest::refusedLosesThatRequest);
+        CHECK.test("refusedOfAnotherRequest", EffectsBoundaryTest::refusedOfAnotherRequest);
+        CHECK.test("refusedWithoutRequest", EffectsBoundaryTest::refusedWithoutRequest);
+        CHECK.test("lostMayYetComeToBe", EffectsBoundaryTest::lostMayYetComeToBe);
+        CHECK.test("downTakesNothing", EffectsBoundaryTest::downTakesNothing);
+        CHECK.test("downAnswersCount", EffectsBoundaryTest::downAnswersCount);
         CHECK.end();
     }
 
@@ -278,7 +278,7 @@ public final class EffectsBoundaryTest {
             int r = x.ask(3, 0, ADD, 1L);
             x.run(3);
             takeFrom(x, order);
-            x.run(1000);
+            x.runAll();
             CHECK.due("the greatest one's VALUE, and one", x.result(r), 31);
             CHECK.due("the greatest one's VERSION, and one", x.request(r, 2), 4);
         }
@@ -305,11 +305,11 @@ public final class EffectsBoundaryTest {
             x.change(1, 0, TAKE_AWAY, 0L);
             x.plan(3, 0, 3, 2);
             x.ask(3, 0, ADD, 1L);
-            x.run(1000);
+            x.runAll();
             int r = x.ask(3, 0, ADD, 1L);
             x.run(2);
             takeFrom(x, new int[] {first, 1 - first});
-            x.run(1000);
+            x.runAll();
             CHECK.due("the VALUE of one that was absent", x.result(r), 1);
             CHECK.due("its VERSION", x.request(r, 2), 1);
         }
@@ -326,7 +326,7 @@ public final class EffectsBoundaryTest {
         CHECK.message("the STATE of the greater of two", late, 1, 2, 3, 0, r, 19, 3);
         late.take(0);
         CHECK.message("it stays", late, 0, 2, 3, 0, r, 19, 3);
-        late.run(1000);
+        late.runAll();
         CHECK.due("its VALUE, and one", late.result(r), 21);
 
         Story lost = three();
@@ -334,7 +334,7 @@ public final class EffectsBoundaryTest {
         lost.ask(3, 0, ADD, 1L);
         lost.run(3);
         lost.lose(2);
-        lost.run(1000);
+        lost.runAll();
         CHECK.due("the VALUE of the greater of two, and one", lost.result(r), 21);
     }
 
@@ -525,7 +525,7 @@ public final class EffectsBoundaryTest {
         given.run(9);
         given.give(0);
         CHECK.gone("TAKEN of one that is LOST", given, 0);
-        given.run(1000);
+        given.runAll();
         CHECK.due("it stays LOST", given.request(0, 0), 2);
     }
 
@@ -589,7 +589,7 @@ public final class EffectsBoundaryTest {
             x.ask(asker, 0, READ, 0L);
             x.give(asker);
         }
-        x.run(1000);
+        x.runAll();
         return x;
     }
 
@@ -679,7 +679,7 @@ public final class EffectsBoundaryTest {
         CHECK.due("the ASKER has it", x.asker(0, 1), 6);
         CHECK.due("the count is raised, though", x.asker(0, 0), 5);
         CHECK.due("its BALLOT stays", x.request(6, 3), 8);
-        x.run(1000);
+        x.runAll();
         CHECK.due("it is DONE", x.request(6, 0), 1);
         CHECK.due("with its BALLOT", x.keeper(0, 1, 1), 8);
     }
@@ -708,7 +708,7 @@ public final class EffectsBoundaryTest {
             done.take(done.messages() - 1);
         }
         CHECK.due("it is DONE", done.request(0, 0), 1);
-        done.run(1000);
+        done.runAll();
         CHECK.due("a REFUSED behind that leaves it so", done.request(0, 0), 1);
         CHECK.due("and the count", done.asker(0, 0), 1);
     }

@@ -7,7 +7,7 @@ final class Future {
 
     static String of(Story story) {
         Story ran = story.again();
-        StringBuilder text = new StringBuilder("ran ").append(ran.run(1000)).append(' ').append(ran.view());
+        StringBuilder text = new StringBuilder("ran ").append(ran.runAll()).append(' ').append(ran.view());
         for (int keeper = 0; keeper < 9; keeper++) {
             text.append(" down ").append(ran.down(keeper, false));
         }
@@ -29,7 +29,7 @@ final class Future {
                 break;
             }
         }
-        asked.run(1000);
+        asked.runAll();
         for (int keeper = 0; keeper < 9; keeper++) {
             text.append(' ').append(asked.keeper(keeper, 3, 1)).append(' ').append(asked.kept(keeper, 3));
         }

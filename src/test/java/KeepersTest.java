@@ -5,16 +5,16 @@ public final class KeepersTest {
     private static final int[] NO_KEYS = {-1, 4, Integer.MIN_VALUE, Integer.MAX_VALUE};
 
     public static void main(String[] args) {
-        down();
-        downTakesNothing();
-        downKeeps();
-        copy();
-        copyOfAllKeys();
-        copyTakesTheGreaterPromise();
-        copyLeavesAnEqualOrLesserOne();
-        copyOfAbsence();
-        keeperAndKept();
-        refuses();
+        CHECK.test("down", KeepersTest::down);
+        CHECK.test("downTakesNothing", KeepersTest::downTakesNothing);
+        CHECK.test("downKeeps", KeepersTest::downKeeps);
+        CHECK.test("copy", KeepersTest::copy);
+        CHECK.test("copyOfAllKeys", KeepersTest::copyOfAllKeys);
+        CHECK.test("copyTakesTheGreaterPromise", KeepersTest::copyTakesTheGreaterPromise);
+        CHECK.test("copyLeavesAnEqualOrLesserOne", KeepersTest::copyLeavesAnEqualOrLesserOne);
+        CHECK.test("copyOfAbsence", KeepersTest::copyOfAbsence);
+        CHECK.test("keeperAndKept", KeepersTest::keeperAndKept);
+        CHECK.test("refuses", KeepersTest::refuses);
         CHECK.end();
     }
 
@@ -44,7 +44,7 @@ public final class KeepersTest {
         CHECK.due("9: ACCEPT is taken", x.take(0), 2);
         CHECK.due("9: and gone", x.messages(), 2);
         CHECK.due("9: nothing accepted", x.keeper(0, 0, 1), 0);
-        x.run(1000);
+        x.runAll();
         CHECK.due("9: two others are enough", x.request(0, 0), 1);
 
         Story told = new Story();
@@ -55,14 +55,14 @@ public final class KeepersTest {
         told.down(2, true);
         told.run(3);
         CHECK.due("9: an answer on its way counts", told.asker(0, 2), 1);
-        CHECK.due("9: all accepts are gone", told.run(1000), 3);
+        CHECK.due("9: all accepts are gone", told.runAll(), 3);
         CHECK.due("9: it goes on", told.request(0, 0), 0);
     }
 
     private static void downKeeps() {
         Story x = new Story();
         x.ask(0, 0, 2, 6L);
-        x.run(1000);
+        x.runAll();
         x.ask(0, 0, 2, 6L);
         x.take(0);
         x.down(0, true);
@@ -79,7 +79,7 @@ public final class KeepersTest {
     private static int downCopy(boolean fromDown, boolean toDown) {
         Story x = new Story();
         x.ask(0, 0, 2, 6L);
-        x.run(1000);
+        x.runAll();
         x.down(0, fromDown);
         x.down(5, toDown);
         return x.copy(5, 0);
@@ -89,7 +89,7 @@ public final class KeepersTest {
         Story x = new Story();
         CHECK.due("10: nothing accepted", x.copy(1, 0), 0);
         x.ask(0, 2, 2, 6L);
-        x.run(1000);
+        x.runAll();
         CHECK.due("10: one key", x.copy(8, 1), 1);
         CHECK.due("10: ballot", x.keeper(8, 2, 1), 4);
         CHECK.due("10: version", x.keeper(8, 2, 2), 1);
@@ -99,7 +99,7 @@ public final class KeepersTest {
         CHECK.due("10: to itself", x.copy(1, 1), 0);
         CHECK.due("10: the other one stays", x.kept(1, 2), 6);
         x.ask(0, 2, 2, 7L);
-        x.run(1000);
+        x.runAll();
         CHECK.due("10: a copy is not tied", x.kept(8, 2), 6);
         CHECK.due("10: a greater one", x.copy(8, 1), 1);
         CHECK.due("10: its value", x.kept(8, 2), 7);
@@ -109,7 +109,7 @@ public final class KeepersTest {
         Story x = new Story();
         for (int key = 0; key < 4; key++) {
             x.ask(0, key, 2, 10L + key);
-            x.run(1000);
+            x.runAll();
             CHECK.due("10: as many keys", x.copy(3 + key, 0), key + 1);
         }
         for (int key = 0; key < 4; key++) {
@@ -121,7 +121,7 @@ public final class KeepersTest {
     private static void copyTakesTheGreaterPromise() {
         Story x = new Story();
         x.ask(0, 0, 2, 6L);
-        x.run(1000);
+        x.runAll();
         x.ask(0, 0, 2, 7L);
         x.take(0);
         CHECK.due("10: the promise there", x.keeper(0, 0, 0), 8);
@@ -131,7 +131,7 @@ public final class KeepersTest {
 
         Story own = new Story();
         own.ask(0, 0, 2, 6L);
-        own.run(1000);
+        own.runAll();
         own.plan(3, 0, 1 << 5, 1);
         own.ask(3, 0, 2, 7L);
         own.take(0);
@@ -144,7 +144,7 @@ public final class KeepersTest {
     private static void copyLeavesAnEqualOrLesserOne() {
         Story x = new Story();
         x.ask(0, 0, 2, 6L);
-        x.run(1000);
+        x.runAll();
         x.ask(0, 0, 2, 7L);
         x.take(0);
         String before = x.view();
@@ -157,10 +157,10 @@ public final class KeepersTest {
     private static void copyOfAbsence() {
         Story x = new Story();
         x.ask(0, 0, 2, 6L);
-        x.run(1000);
+        x.runAll();
         x.copy(4, 0);
         x.ask(0, 0, 5, 0L);
-        x.run(1000);
+        x.runAll();
         CHECK.due("10: absent with a greater ballot", x.copy(4, 0), 1);
         CHECK.due("10: is absent then", x.keeper(4, 0, 2), -1);
         CHECK.due("10: with its ballot", x.keeper(4, 0, 1), 8);
@@ -177,13 +177,13 @@ public final class KeepersTest {
         CHECK.due("13: nothing accepted", x.keeper(8, 3, 1), 0);
         CHECK.due("13: absent", x.keeper(8, 3, 2), -1);
         CHECK.due("14: absent", x.kept(8, 3), 0);
-        x.run(1000);
+        x.runAll();
         CHECK.due("13: no promise", x.keeper(8, 3, 0), 0);
         CHECK.due("13: accepted", x.keeper(8, 3, 1), 6);
         CHECK.due("13: version", x.keeper(8, 3, 2), 1);
         CHECK.due("14: value", x.kept(8, 3), Long.MIN_VALUE);
         x.ask(2, 3, 5, 0L);
-        x.run(1000);
+        x.runAll();
         CHECK.due("13: taken away", x.keeper(8, 3, 2), -1);
         CHECK.due("14: taken away", x.kept(8, 3), 0);
         CHECK.due("13: the ballot of that", x.keeper(8, 3, 1), 10);
@@ -195,7 +195,7 @@ public final class KeepersTest {
     private static void refuses() {
         Story x = new Story();
         x.ask(0, 0, 2, 5L);
-        x.run(1000);
+        x.runAll();
         for (int wrong : NO_KEEPERS) {
             CHECK.outOfBounds("9: " + wrong, x, s -> s.down(wrong, true));
             CHECK.outOfBounds("10: to " + wrong, x, s -> s.copy(wrong, 0));

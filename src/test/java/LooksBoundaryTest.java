@@ -9,29 +9,29 @@ public final class LooksBoundaryTest {
     private static final int TAKE_AWAY = 5;
 
     public static void main(String[] args) {
-        messagesFrom0To300();
-        messageParts();
-        messageBallots();
-        messageVersions();
-        messageOutOfBounds();
-        messageWhat();
-        keeperParts();
-        keeperOutOfBounds();
-        keptOfAbsent();
-        keptExtremes();
-        keptOutOfBounds();
-        askerParts();
-        askerWithoutRequest();
-        askerOutOfBounds();
-        requestEndings();
-        requestFailed();
-        requestVersion();
-        requestBallot();
-        requestOutOfBounds();
-        resultOfAbsent();
-        resultWhenNotDone();
-        resultOutOfBounds();
-        looksChangeNothing();
+        CHECK.test("messagesFrom0To300", LooksBoundaryTest::messagesFrom0To300);
+        CHECK.test("messageParts", LooksBoundaryTest::messageParts);
+        CHECK.test("messageBallots", LooksBoundaryTest::messageBallots);
+        CHECK.test("messageVersions", LooksBoundaryTest::messageVersions);
+        CHECK.test("messageOutOfBounds", LooksBoundaryTest::messageOutOfBounds);
+        CHECK.test("messageWhat", LooksBoundaryTest::messageWhat);
+        CHECK.test("keeperParts", LooksBoundaryTest::keeperParts);
+        CHECK.test("keeperOutOfBounds", LooksBoundaryTest::keeperOutOfBounds);
+        CHECK.test("keptOfAbsent", LooksBoundaryTest::keptOfAbsent);
+        CHECK.test("keptExtremes", LooksBoundaryTest::keptExtremes);
+        CHECK.test("keptOutOfBounds", LooksBoundaryTest::keptOutOfBounds);
+        CHECK.test("askerParts", LooksBoundaryTest::askerParts);
+        CHECK.test("askerWithoutRequest", LooksBoundaryTest::askerWithoutRequest);
+        CHECK.test("askerOutOfBounds", LooksBoundaryTest::askerOutOfBounds);
+        CHECK.test("requestEndings", LooksBoundaryTest::requestEndings);
+        CHECK.test("requestFailed", LooksBoundaryTest::requestFailed);
+        CHECK.test("requestVersion", LooksBoundaryTest::requestVersion);
+        CHECK.test("requestBallot", LooksBoundaryTest::requestBallot);
+        CHECK.test("requestOutOfBounds", LooksBoundaryTest::requestOutOfBounds);
+        CHECK.test("resultOfAbsent", LooksBoundaryTest::resultOfAbsent);
+        CHECK.test("resultWhenNotDone", LooksBoundaryTest::resultWhenNotDone);
+        CHECK.test("resultOutOfBounds", LooksBoundaryTest::resultOutOfBounds);
+        CHECK.test("looksChangeNothing", LooksBoundaryTest::looksChangeNothing);
         CHECK.end();
     }
 
@@ -168,7 +168,7 @@ public final class LooksBoundaryTest {
         x.ask(3, 3, TAKE_AWAY, 0L);
         x.take(0);
         keeper(x, 11, 7, 1);
-        x.run(1000);
+        x.runAll();
         keeper(x, 0, 11, -1);
     }
 
@@ -207,7 +207,7 @@ public final class LooksBoundaryTest {
         x.run(1);
         CHECK.due("ACCEPTED", x.kept(0, 0), 8);
         CHECK.due("not by another one yet", x.kept(1, 0), 0);
-        x.run(1000);
+        x.runAll();
         x.change(0, 0, TAKE_AWAY, 0L);
         CHECK.due("taken away", x.kept(0, 0), 0);
     }
@@ -330,7 +330,7 @@ public final class LooksBoundaryTest {
         Story given = x.again();
         given.give(0);
         CHECK.due("LOST", given.request(1, 1), 0);
-        given.run(1000);
+        given.runAll();
         CHECK.due("LOST for ever", given.request(1, 1), 0);
         x.run(1);
         CHECK.due("DONE", x.request(1, 1), 1);
@@ -348,7 +348,7 @@ public final class LooksBoundaryTest {
         CHECK.due("LOST", given.request(0, 2), -1);
         x.run(1);
         CHECK.due("DONE", x.request(0, 2), 1);
-        x.run(1000);
+        x.runAll();
         x.change(0, 0, TAKE_AWAY, 0L);
         CHECK.due("DONE, absent", x.request(1, 2), -1);
         CHECK.due("the one before stays", x.request(0, 2), 1);
@@ -427,7 +427,7 @@ public final class LooksBoundaryTest {
         Story given = x.again();
         given.give(0);
         CHECK.due("LOST", given.result(1), 0);
-        given.run(1000);
+        given.runAll();
         CHECK.due("LOST for ever", given.result(1), 0);
         x.run(1);
         CHECK.due("DONE", x.result(1), 7);

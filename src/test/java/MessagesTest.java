@@ -5,26 +5,26 @@ public final class MessagesTest {
     private static final int MAX = Integer.MAX_VALUE;
 
     public static void main(String[] args) {
-        takeEachSort();
-        takeInAnyOrder();
-        promisedTwiceCountsOnce();
-        takenTwiceCountsOnce();
-        lateAnswersAreGone();
-        prepareTwiceIsRefused();
-        acceptTwiceIsTakenTwice();
-        acceptWithoutPromise();
-        acceptBelowThePromise();
-        acceptBelowTheAccepted();
-        prepareBelowTheAccepted();
-        refusedRaisesTheCount();
-        refusedOfAnEndedRequest();
-        refusedNeverLowersTheCount();
-        greatestBallotIsChanged();
-        answersAtTheRim();
-        run();
-        lose();
-        twice();
-        refusesWrongIndexes();
+        CHECK.test("takeEachSort", MessagesTest::takeEachSort);
+        CHECK.test("takeInAnyOrder", MessagesTest::takeInAnyOrder);
+        CHECK.test("promisedTwiceCountsOnce", MessagesTest::promisedTwiceCountsOnce);
+        CHECK.test("takenTwiceCountsOnce", MessagesTest::takenTwiceCountsOnce);
+        CHECK.test("lateAnswersAreGone", MessagesTest::lateAnswersAreGone);
+        CHECK.test("prepareTwiceIsRefused", MessagesTest::prepareTwiceIsRefused);
+        CHECK.test("acceptTwiceIsTakenTwice", MessagesTest::acceptTwiceIsTakenTwice);
+        CHECK.test("acceptWithoutPromise", MessagesTest::acceptWithoutPromise);
+        CHECK.test("acceptBelowThePromise", MessagesTest::acceptBelowThePromise);
+        CHECK.test("acceptBelowTheAccepted", MessagesTest::acceptBelowTheAccepted);
+        CHECK.test("prepareBelowTheAccepted", MessagesTest::prepareBelowTheAccepted);
+        CHECK.test("refusedRaisesTheCount", MessagesTest::refusedRaisesTheCount);
+        CHECK.test("refusedOfAnEndedRequest", MessagesTest::refusedOfAnEndedRequest);
+        CHECK.test("refusedNeverLowersTheCount", MessagesTest::refusedNeverLowersTheCount);
+        CHECK.test("greatestBallotIsChanged", MessagesTest::greatestBallotIsChanged);
+        CHECK.test("answersAtTheRim", MessagesTest::answersAtTheRim);
+        CHECK.test("run", MessagesTest::run);
+        CHECK.test("lose", MessagesTest::lose);
+        CHECK.test("twice", MessagesTest::twice);
+        CHECK.test("refusesWrongIndexes", MessagesTest::refusesWrongIndexes);
         CHECK.end();
     }
 
@@ -108,7 +108,7 @@ public final class MessagesTest {
         CHECK.due("5: it goes on", x.request(0, 0), 0);
         CHECK.due("16: not done, so no version", x.request(0, 2), -1);
         CHECK.due("17: nor a value", x.result(0), 0);
-        x.run(1000);
+        x.runAll();
         CHECK.due("5: the second keeper's is enough", x.request(0, 0), 1);
     }
 
@@ -131,7 +131,7 @@ public final class MessagesTest {
         x.ask(0, 1, 2, 3L);
         CHECK.due("5: PROMISED of one that was given up", x.take(0), 1);
         CHECK.due("5: does not count", x.asker(0, 3), 0);
-        x.run(1000);
+        x.runAll();
         CHECK.due("5: the one that was given up stays so", x.request(1, 0), 2);
         CHECK.due("5: this one is done", x.request(2, 0), 1);
     }
@@ -167,7 +167,7 @@ public final class MessagesTest {
         Story x = new Story();
         x.plan(0, 1, 1 << 8, 1);
         x.ask(0, 3, 2, -4L);
-        x.run(1000);
+        x.runAll();
         CHECK.due("5: one that promised nothing accepts", x.kept(8, 3), -4);
         CHECK.due("5: with the ballot", x.keeper(8, 3, 1), 4);
         CHECK.due("5: other keys have none", x.keeper(8, 2, 1), 0);
@@ -186,7 +186,7 @@ public final class MessagesTest {
         CHECK.due("5: the promise stays", x.keeper(0, 0, 0), 5);
         x.take(5);
         CHECK.due("5: lost while accepting", x.request(0, 0), 2);
-        x.run(1000);
+        x.runAll();
         CHECK.due("5: the greater ballot is done", x.request(1, 0), 1);
     }
 
@@ -214,7 +214,7 @@ public final class MessagesTest {
     private static void prepareBelowTheAccepted() {
         Story x = new Story();
         x.ask(1, 0, 2, 2L);
-        x.run(1000);
+        x.runAll();
         x.ask(0, 0, 2, 1L);
         CHECK.due("5: a ballot below the accepted", x.request(1, 3), 4);
         x.take(0);
@@ -231,15 +231,15 @@ public final class MessagesTest {
             x.ask(3, 0, 0, 0L);
             x.give(3);
         }
-        x.run(1000);
+        x.runAll();
         CHECK.due("5: the promise", x.keeper(0, 0, 0), 23);
         x.ask(0, 0, 2, 1L);
-        x.run(1000);
+        x.runAll();
         CHECK.due("5: a fourth, rounded down", x.asker(0, 0), 5);
         CHECK.due("5: lost", x.request(5, 0), 2);
         CHECK.due("5: the next", x.ask(0, 0, 2, 1L), 6);
         CHECK.due("5: its ballot is above", x.request(6, 3), 24);
-        x.run(1000);
+        x.runAll();
         CHECK.due("5: and it is done", x.request(6, 0), 1);
     }
 
@@ -249,7 +249,7 @@ public final class MessagesTest {
             x.ask(3, 0, 0, 0L);
             x.give(3);
         }
-        x.run(1000);
+        x.runAll();
         x.ask(0, 0, 2, 1L);
         x.run(3);
         x.give(0);
@@ -259,7 +259,7 @@ public final class MessagesTest {
         CHECK.due("5: raises the count, too", x.asker(0, 0), 5);
         CHECK.due("5: but not this one is lost", x.asker(0, 1), 6);
         CHECK.due("5: whose ballot stays", x.request(6, 3), 8);
-        x.run(1000);
+        x.runAll();
         CHECK.due("5: and which is done", x.request(6, 0), 1);
         CHECK.due("5: the one before stays lost", x.request(5, 0), 2);
     }
@@ -287,13 +287,13 @@ public final class MessagesTest {
             x.plan(0, 0, 0b11, 2);
             x.plan(0, 1, 0b01, 1);
             x.ask(0, 0, 2, 100L);
-            x.run(1000);
+            x.runAll();
             x.plan(1, 0, 0b10, 1);
             x.plan(1, 1, 0b10, 1);
             x.ask(1, 0, 2, 7L);
-            x.run(1000);
+            x.runAll();
             x.ask(1, 0, 2, 70L);
-            x.run(1000);
+            x.runAll();
             x.ask(0, 0, 4, 1L);
             x.give(0);
             x.lose(0);
@@ -307,7 +307,7 @@ public final class MessagesTest {
             x.take(0);
             x.take(0);
             CHECK.message("12: parts", x, 0, 2, 0, 0, 4, 12, 3);
-            x.run(1000);
+            x.runAll();
             CHECK.due("5: the greatest is changed", x.result(4), 71);
         }
     }

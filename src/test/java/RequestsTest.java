@@ -10,18 +10,18 @@ public final class RequestsTest {
     private static final int GREATER = 6;
 
     public static void main(String[] args) {
-        asker();
-        request();
-        failedIsToldWhenDone();
-        readChanges();
-        beginChanges();
-        setChanges();
-        swapChanges();
-        addChanges();
-        takeAwayChanges();
-        greaterChanges();
-        keysAreApart();
-        refuses();
+        CHECK.test("asker", RequestsTest::asker);
+        CHECK.test("request", RequestsTest::request);
+        CHECK.test("failedIsToldWhenDone", RequestsTest::failedIsToldWhenDone);
+        CHECK.test("readChanges", RequestsTest::readChanges);
+        CHECK.test("beginChanges", RequestsTest::beginChanges);
+        CHECK.test("setChanges", RequestsTest::setChanges);
+        CHECK.test("swapChanges", RequestsTest::swapChanges);
+        CHECK.test("addChanges", RequestsTest::addChanges);
+        CHECK.test("takeAwayChanges", RequestsTest::takeAwayChanges);
+        CHECK.test("greaterChanges", RequestsTest::greaterChanges);
+        CHECK.test("keysAreApart", RequestsTest::keysAreApart);
+        CHECK.test("refuses", RequestsTest::refuses);
         CHECK.end();
     }
 
@@ -73,7 +73,7 @@ public final class RequestsTest {
         CHECK.due("16: ballot", x.request(0, 3), 5);
         CHECK.due("17: value", x.result(0), -5);
         x.ask(1, 0, SET, 6L);
-        x.run(1000);
+        x.runAll();
         CHECK.due("17: its own value stays", x.result(0), -5);
         CHECK.due("16: its own version stays", x.request(0, 2), 1);
         CHECK.due("17: that of the next", x.result(1), 6);
@@ -90,17 +90,17 @@ public final class RequestsTest {
     private static void failedIsToldWhenDone() {
         Story x = new Story();
         x.ask(0, 0, SET, 5L);
-        x.run(1000);
+        x.runAll();
         x.ask(0, 0, BEGIN, 9L);
         x.run(6);
         CHECK.due("16: accepting", x.asker(0, 2), 1);
         CHECK.due("16: not told yet", x.request(1, 1), 0);
-        x.run(1000);
+        x.runAll();
         CHECK.due("16: failed", x.request(1, 1), 1);
         x.ask(0, 0, BEGIN, 9L);
         x.run(6);
         x.give(0);
-        x.run(1000);
+        x.runAll();
         CHECK.due("16: lost, not told", x.request(2, 1), 0);
     }
 
@@ -108,7 +108,7 @@ public final class RequestsTest {
     private static void change(Story x, int change, long argument, int failed, int version, long value) {
         String what = "change " + change + " " + argument;
         int r = x.ask(0, 0, change, argument);
-        CHECK.due(what + " runs", x.run(1000), 12);
+        CHECK.due(what + " runs", x.runAll(), 12);
         CHECK.due(what + " done", x.request(r, 0), 1);
         CHECK.due(what + " failed", x.request(r, 1), failed);
         CHECK.due(what + " version", x.request(r, 2), version);
@@ -204,7 +204,7 @@ public final class RequestsTest {
         for (int asker = 0; asker < 4; asker++) {
             x.ask(asker, asker, ADD, 10L + asker);
         }
-        CHECK.due("16: all run", x.run(1000), 48);
+        CHECK.due("16: all run", x.runAll(), 48);
         for (int key = 0; key < 4; key++) {
             CHECK.due("16: done", x.request(key, 0), 1);
             CHECK.due("17: value", x.result(key), 10 + key);

@@ -7,6 +7,8 @@ import java.util.List;
  */
 final class Story extends Calls {
     static final int MOST_CALLS = 512;
+    /** More than a full row can bring with it: 300, an answer to each, and for four requests nine twice. */
+    private static final int ALL = 700;
 
     private final List<Call> calls = new ArrayList<>();
     private final SharedRegisters object = new SharedRegisters();
@@ -34,8 +36,12 @@ final class Story extends Calls {
     /** A request that is run to its end. */
     int change(int asker, int key, int change, long argument) {
         int r = ask(asker, key, change, argument);
-        run(1000);
+        runAll();
         return r;
+    }
+
+    int runAll() {
+        return run(ALL);
     }
 
     /** One keeper alone is enough for the asker. */

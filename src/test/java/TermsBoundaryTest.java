@@ -12,34 +12,34 @@ public final class TermsBoundaryTest {
     private static final int GREATER = 6;
 
     public static void main(String[] args) {
-        the512thCall();
-        keepers0To8();
-        askers0To3();
-        keys0To3();
-        promiseAtFirst0();
-        acceptedAtFirst0AndAbsent();
-        ballotsAbove0();
-        countAtFirst0();
-        planAtFirst();
-        planAsItWas();
-        versionOneMore();
-        versionOneOfAbsent();
-        valueOfAbsentCountsAs0();
-        failedStateIsTheSame();
-        readStays();
-        beginFailsIfNotAbsent();
-        setOfAnyValue();
-        swapOfAnotherVersion();
-        swapHalves();
-        addWraps();
-        takeAwayFailsIfAbsent();
-        greaterFailsAtTheValue();
-        countIsOneMore();
-        sentByTheirNumbers();
-        sentBehindTheOthers();
-        prepareWithoutRoom();
-        acceptWithoutRoom();
-        answersAtAFullRow();
+        CHECK.test("the512thCall", TermsBoundaryTest::the512thCall);
+        CHECK.test("keepers0To8", TermsBoundaryTest::keepers0To8);
+        CHECK.test("askers0To3", TermsBoundaryTest::askers0To3);
+        CHECK.test("keys0To3", TermsBoundaryTest::keys0To3);
+        CHECK.test("promiseAtFirst0", TermsBoundaryTest::promiseAtFirst0);
+        CHECK.test("acceptedAtFirst0AndAbsent", TermsBoundaryTest::acceptedAtFirst0AndAbsent);
+        CHECK.test("ballotsAbove0", TermsBoundaryTest::ballotsAbove0);
+        CHECK.test("countAtFirst0", TermsBoundaryTest::countAtFirst0);
+        CHECK.test("planAtFirst", TermsBoundaryTest::planAtFirst);
+        CHECK.test("planAsItWas", TermsBoundaryTest::planAsItWas);
+        CHECK.test("versionOneMore", TermsBoundaryTest::versionOneMore);
+        CHECK.test("versionOneOfAbsent", TermsBoundaryTest::versionOneOfAbsent);
+        CHECK.test("valueOfAbsentCountsAs0", TermsBoundaryTest::valueOfAbsentCountsAs0);
+        CHECK.test("failedStateIsTheSame", TermsBoundaryTest::failedStateIsTheSame);
+        CHECK.test("readStays", TermsBoundaryTest::readStays);
+        CHECK.test("beginFailsIfNotAbsent", TermsBoundaryTest::beginFailsIfNotAbsent);
+        CHECK.test("setOfAnyValue", TermsBoundaryTest::setOfAnyValue);
+        CHECK.test("swapOfAnotherVersion", TermsBoundaryTest::swapOfAnotherVersion);
+        CHECK.test("swapHalves", TermsBoundaryTest::swapHalves);
+        CHECK.test("addWraps", TermsBoundaryTest::addWraps);
+        CHECK.test("takeAwayFailsIfAbsent", TermsBoundaryTest::takeAwayFailsIfAbsent);
+        CHECK.test("greaterFailsAtTheValue", TermsBoundaryTest::greaterFailsAtTheValue);
+        CHECK.test("countIsOneMore", TermsBoundaryTest::countIsOneMore);
+        CHECK.test("sentByTheirNumbers", TermsBoundaryTest::sentByTheirNumbers);
+        CHECK.test("sentBehindTheOthers", TermsBoundaryTest::sentBehindTheOthers);
+        CHECK.test("prepareWithoutRoom", TermsBoundaryTest::prepareWithoutRoom);
+        CHECK.test("acceptWithoutRoom", TermsBoundaryTest::acceptWithoutRoom);
+        CHECK.test("answersAtAFullRow", TermsBoundaryTest::answersAtAFullRow);
         CHECK.end();
     }
 
@@ -48,7 +48,7 @@ public final class TermsBoundaryTest {
         Story x = new Story();
         for (int n = 1; n <= 200; n++) {
             CHECK.due("ask " + n, x.ask(0, 0, ADD, 1L), n - 1);
-            CHECK.due("run " + n, x.run(1000), 12);
+            CHECK.due("run " + n, x.runAll(), 12);
         }
         while (x.size() < 511) {
             CHECK.due("call " + x.size(), x.kept(0, 0), 200);
@@ -217,7 +217,7 @@ public final class TermsBoundaryTest {
         CHECK.due("one TAKEN is not enough yet", x.request(0, 0), 0);
         x.run(1);
         CHECK.due("two are", x.request(0, 0), 1);
-        x.run(1000);
+        x.runAll();
         x.ask(0, 0, SET, 6L);
         CHECK.due("the next one is of the new PLAN", x.messages(), 9);
         x.run(17);
@@ -234,7 +234,7 @@ public final class TermsBoundaryTest {
     private static void change(Story x, int change, long argument, boolean failed, int version, long value) {
         String what = "CHANGE " + change + " " + argument;
         int r = x.ask(0, 0, change, argument);
-        CHECK.due(what + " runs", x.run(1000), 12);
+        CHECK.due(what + " runs", x.runAll(), 12);
         CHECK.due(what + " is DONE", x.request(r, 0), 1);
         CHECK.due(what + " FAILED", x.request(r, 1), failed ? 1 : 0);
         CHECK.due(what + " VERSION", x.request(r, 2), version);
