@@ -7,11 +7,15 @@ import java.util.TreeSet;
 /** The public face is the document's, and nothing else can be seen from outside. */
 public final class FaceTest {
     private static final Check CHECK = new Check("FaceTest");
+    private static final String NUMBERS = " throws IndexOutOfBoundsException";
+    private static final String RANGES = " throws IllegalArgumentException";
+    private static final String BOTH = " throws IndexOutOfBoundsException, IllegalArgumentException";
     private static final String[] METHODS = {
-        "int ask(int,int,int,long)", "int give(int)", "void plan(int,int,int,int)", "int take(int)",
-        "int run(int)", "int lose(int)", "int twice(int)", "boolean down(int,boolean)", "int copy(int,int)",
-        "int messages()", "int message(int,int)", "int keeper(int,int,int)", "long kept(int,int)",
-        "int asker(int,int)", "int request(int,int)", "long result(int)"
+        "int ask(int,int,int,long)" + BOTH, "int give(int)" + NUMBERS, "void plan(int,int,int,int)" + BOTH,
+        "int take(int)" + NUMBERS, "int run(int)" + RANGES, "int lose(int)" + NUMBERS, "int twice(int)" + NUMBERS,
+        "boolean down(int,boolean)" + NUMBERS, "int copy(int,int)" + NUMBERS, "int messages()",
+        "int message(int,int)" + NUMBERS, "int keeper(int,int,int)" + NUMBERS, "long kept(int,int)" + NUMBERS,
+        "int asker(int,int)" + NUMBERS, "int request(int,int)" + NUMBERS, "long result(int)" + NUMBERS
     };
 
     public static void main(String[] args) {
@@ -58,10 +62,19 @@ public final class FaceTest {
         for (Method method : face.getDeclaredMethods()) {
             if (!Modifier.isPrivate(method.getModifiers())) {
                 seen.add(Modifier.toString(method.getModifiers()) + " " + method.getReturnType() + " "
-                        + method.getName() + types(method.getParameterTypes()));
+                        + method.getName() + types(method.getParameterTypes())
+                        + thrown(method.getExceptionTypes()));
             }
         }
         return seen;
+    }
+
+    private static String thrown(Class<?>[] exceptions) {
+        StringBuilder text = new StringBuilder();
+        for (Class<?> exception : exceptions) {
+            text.append(text.length() == 0 ? " throws " : ", ").append(exception.getSimpleName());
+        }
+        return text.toString();
     }
 
     private static String types(Class<?>[] parameters) {
